@@ -485,7 +485,6 @@ public final class SpinKernel {
             length = newLength;
             in = newIn;
             spinBound = 0;
-            forgetJobs();
         }
 
         boolean isOuter() {
@@ -499,7 +498,6 @@ public final class SpinKernel {
 
         void forgetJobs() {
             ticksOfNextJob = 0;
-            ticksOfJob = 0;
             mostSpun = 0;
         }
     }
@@ -527,8 +525,6 @@ public final class SpinKernel {
             state = PLAIN;
             workDone = 0;
             next = firstRequest;
-            sectionLeft = 0;
-            spinning = 0;
         }
 
         void end(int now, int deadline) {
@@ -541,10 +537,9 @@ public final class SpinKernel {
             }
         }
 
+        /** Only when it is not open. */
         void forget() {
             hasCome = false;
-            isOpen = false;
-            state = PLAIN;
             ended = 0;
             endedLate = 0;
             greatestResponse = 0;
@@ -579,7 +574,6 @@ public final class SpinKernel {
             deadline = newDeadline;
             work = newWork;
             count = 0;
-            job.forget();
         }
 
         boolean isOn(int ofCore) {

@@ -3,7 +3,7 @@ import java.util.List;
 
 /** Long runs of calls, each answer compared with that of Model, which does what the words say tick by tick. */
 public final class ModelTest {
-    private static final int RUNS = 1500;
+    private static final int RUNS = 600;
     private static final int CALLS = 512;
     private static final int NONE = SpinKernel.NONE;
 
@@ -13,7 +13,8 @@ public final class ModelTest {
     private final Model model = new Model();
     /** The greatest distance, length and number of ticks that this run likes. */
     private final int wide;
-    private final boolean strict;
+    /** Few locks and much time between jobs: more tasks can be sealed together, and more of them spin. */
+    private final boolean roomy;
     private static long ended = 0;
     private static long spun = 0;
     private static long sealed = 0;
@@ -22,7 +23,7 @@ public final class ModelTest {
         dice = new Dice(run);
         name = "run " + run;
         wide = new int[] {6, 20, 60, 300}[dice.below(4)];
-        strict = dice.below(3) > 0;
+        roomy = dice.below(3) > 0;
     }
 
     public static void main(String[] args) {
@@ -30,7 +31,7 @@ public final class ModelTest {
             new ModelTest(run).play();
         }
         System.out.println(sealed + " seals, " + ended + " jobs ended, " + spun + " ticks of greatest spinning");
-        Check.due("runs worth something", sealed > RUNS && ended > 20 * RUNS && spun > RUNS ? 1 : 0, 1);
+        Check.due("runs worth something", sealed > RUNS && ended > 50 * RUNS && spun > 200 * RUNS ? 1 : 0, 1);
         Check.finish();
     }
 
@@ -50,15 +51,15 @@ public final class ModelTest {
     }
 
     private void openCall() {
-        int choice = dice.below(20);
-        if (choice < 6) {
+        int choice = dice.below(40);
+        if (choice < 15) {
             callTask();
-        } else if (choice < 13) {
+        } else if (choice < 36) {
             callRequest();
-        } else if (choice < 14) {
+        } else if (choice < 37) {
             int id = anyTask();
             same("take " + id, () -> { real.take(id); return 0; }, () -> { model.take(id); return 0; });
-        } else if (choice < 15) {
+        } else if (choice < 38) {
             anyCall();
         } else {
             callSeal();
@@ -68,8 +69,9 @@ public final class ModelTest {
     private void sealedCall() {
         int choice = dice.below(20);
         if (choice < 9) {
-            int id = anyTask();
-            same("arrive " + id, () -> real.arrive(id) ? 1 : 0, () -> model.arrive(id) ? 1 : 0);
+            for (int more = dice.below(8); more >= 0; more--) {
+                callArrive(anyTask());
+            }
         } else if (choice < 17) {
             callTick();
         } else if (choice < 18) {
@@ -89,11 +91,12 @@ public final class ModelTest {
             case 3: callTick(); break;
             case 4: same("seal", real::seal, model::seal); break;
             case 5: same("unseal", () -> { real.unseal(); return 0; }, () -> { model.unseal(); return 0; }); break;
-            default: {
-                int id = dice.below(18) - 1;
-                same("arrive " + id, () -> real.arrive(id) ? 1 : 0, () -> model.arrive(id) ? 1 : 0);
-            }
+            default: callArrive(dice.below(18) - 1); break;
         }
+    }
+
+    private void callArrive(int id) {
+        same("arrive " + id, () -> real.arrive(id) ? 1 : 0, () -> model.arrive(id) ? 1 : 0);
     }
 
     private int anyTask() {
@@ -108,7 +111,7 @@ public final class ModelTest {
         int id = dice.below(18) - (dice.below(10) == 0 ? 1 : 0);
         int core = dice.below(40) == 0 ? dice.below(8) - 2 : dice.below(4);
         int priority = dice.below(40) == 0 ? dice.below(1005) - 2 : dice.below(12);
-        int distance = dice.below(40) == 0 ? dice.oneOf(0, -1, 10000, 10001) : 1 + dice.below(8 * wide);
+        int distance = dice.below(40) == 0 ? dice.oneOf(0, -1, 10000, 10001) : 1 + dice.below(8 * wide) + (roomy ? 30 * wide : 0);
         int deadline = dice.below(4) == 0 ? dice.below(distance + 2) : distance;
         int work = dice.below(40) == 0 ? dice.oneOf(0, -1, 1000, 1001) : 1 + dice.below(1 + wide / 4);
         same("task " + id, () -> { real.task(id, core, priority, distance, deadline, work); return 0; },
@@ -119,7 +122,7 @@ public final class ModelTest {
         int id = anyTask();
         int in = dice.below(3) == 0 ? dice.below(8) - 2 : NONE;
         int after = dice.below(1 + wide / 4) - (dice.below(20) == 0 ? 1 : 0);
-        int lock = dice.below(40) == 0 ? dice.below(12) - 2 : dice.below(strict ? 3 : 8);
+        int lock = dice.below(40) == 0 ? dice.below(12) - 2 : dice.below(roomy ? 3 : 8);
         int length = dice.below(40) == 0 ? dice.oneOf(0, -1, 100, 101) : 1 + dice.below(1 + wide / 4);
         same("request of " + id, () -> real.request(id, after, lock, length, in),
                 () -> model.request(id, after, lock, length, in));
@@ -150,7 +153,14 @@ public final class ModelTest {
     }
 
     private void callTick() {
-        int n = dice.below(30) == 0 ? dice.oneOf(0, -1, 100001, 1000) : 1 + dice.below(dice.below(3) == 0 ? wide : 3);
+        int n = 1 + dice.below(dice.oneOf(1, 3, 3, wide, 10 * wide));
+        if (dice.below(30) == 0) {
+            n = dice.oneOf(0, -1, 100001, 1000);
+        }
+        tickBoth(n);
+    }
+
+    private void tickBoth(int n) {
         same("tick " + n, () -> real.tick(n), () -> { long e = model.tick(n); ended += e; return e; });
     }
 

@@ -11,6 +11,7 @@ public final class PromiseTest {
         promise3RequestInside();
         promise3RequestNumbers();
         promise4Take();
+        promise4NothingStaysOfATask();
         promise5Group();
         promise6Spin();
         promise7Inflated();
@@ -25,6 +26,7 @@ public final class PromiseTest {
         promise12Preemption();
         promise12NoPreemptionInSections();
         promise12RequestsAtOneAfter();
+        promise12SixRequests();
         promise13Core();
         promise14Row();
         promise14RowOfAGroup();
@@ -227,6 +229,42 @@ public final class PromiseTest {
         Check.index("taken after it was sealed", x, () -> x.jobs(0, 0));
     }
 
+    /** What is laid down in the place of a task that was taken away is as new. */
+    private static void promise4NothingStaysOfATask() {
+        SpinKernel x = new SpinKernel();
+        x.task(0, 0, 1, 1000, 1000, 50);
+        x.request(0, 40, 0, 90, NONE);
+        x.request(0, 50, 0, 90, NONE);
+        x.request(0, 50, 0, 20, NONE);
+        x.task(1, 1, 1, 1000, 1000, 5);
+        x.request(1, 5, 0, 30, NONE);
+        Check.due("spin before", x.spin(0, 1), 30);
+        seal(x);
+        x.shorten(0, 0, 1);
+        arrive(x, 0, 1);
+        x.tick(1000);
+        x.unseal();
+        x.take(0);
+        x.task(0, 0, 1, 1000, 1000, 3);
+        x.task(2, 0, 2, 1000, 1000, 3);
+        Check.due("no blocking by what was there", x.bound(2, 1), 0);
+        Check.argument("in a request that was there", x, () -> x.request(0, 0, 1, 1, 0));
+        seal(x);
+        arrive(x, 0);
+        Check.due("it stops at its own work", x.tick(100), 1);
+        Check.due("its own work alone", x.jobs(0, 2), 3);
+        x.unseal();
+        Check.due("its own AFTER", x.request(0, 1, 0, 9, NONE), 0);
+        Check.due("inside where an outer one was", x.request(0, 1, 0, 2, 0), 1);
+        Check.due("no spin of that one", x.spin(0, 1), 0);
+        Check.due("spin of its own", x.spin(0, 0), 30);
+        Check.due("nothing spun", x.spun(0, 0), 0);
+        seal(x);
+        arrive(x, 0);
+        x.tick(100);
+        Check.due("its own section", x.jobs(0, 2), 12);
+    }
+
     private static void promise5Group() {
         SpinKernel x = new SpinKernel();
         x.task(0, 0, 5, 1000, 1000, 9);
@@ -374,6 +412,9 @@ public final class PromiseTest {
         y.task(1, 0, 8, 10000, 10000, 1);
         Check.due("never: all is taken", y.bound(1, 2), NONE);
         Check.due("never, for the other: met", y.bound(0, 2), 5);
+        y.task(2, 1, 9, 1, 1, 1);
+        y.task(3, 1, 8, 10000, 10000, 1);
+        Check.due("never: all is taken by distance 1", y.bound(3, 2), NONE);
         SpinKernel z = new SpinKernel();
         z.task(0, 0, 9, 2, 2, 1);
         z.task(1, 0, 8, 10000, 10000, 1000);
@@ -398,6 +439,12 @@ public final class PromiseTest {
         arrive(x, 7);
         Check.state("sealed already, with a job", x, x::seal);
         Check.due("the job goes on", x.tick(5), 1);
+        SpinKernel y = new SpinKernel();
+        y.task(0, 0, 9, 5, 5, 6);
+        y.task(15, 1, 9, 5, 5, 6);
+        Check.due("the first of all", y.seal(), 0);
+        y.take(0);
+        Check.due("the last of all", y.seal(), 15);
     }
 
     private static void promise9Unseal() {
@@ -631,6 +678,36 @@ public final class PromiseTest {
         Check.due("all in all", x.jobs(0, 2), 7);
     }
 
+    private static void promise12SixRequests() {
+        SpinKernel x = new SpinKernel();
+        x.task(0, 0, 1, 200, 200, 3);
+        for (int i = 0; i < 6; i++) {
+            x.request(0, i / 2, i, 2 + i, NONE);
+        }
+        x.task(1, 0, 2, 200, 200, 3);
+        x.task(2, 1, 2, 200, 200, 3);
+        for (int i = 0; i < 3; i++) {
+            x.request(2, i, 2 * i, 10, NONE);
+            x.request(2, i, 2 * i + 1, 1, 2 * i);
+        }
+        Check.due("blocking by the sixth", x.bound(1, 1), 7 + 10 - 1);
+        seal(x);
+        x.shorten(0, 5, 1);
+        arrive(x, 0);
+        Check.due("all six: not ended", x.tick(3 + 2 + 3 + 4 + 5 + 6), 0);
+        Check.due("all six: ended", x.tick(1), 1);
+        Check.due("times", x.jobs(0, 1), 24);
+        x.tick(200);
+        arrive(x, 2);
+        x.tick(1);
+        arrive(x, 0);
+        x.tick(100);
+        Check.due("the first spun", x.spun(0, 0), 9);
+        Check.due("the second did not", x.spun(0, 1), 0);
+        x.unseal();
+        Check.due("all is gone", x.spun(0, 0) + x.jobs(0, 0), 0);
+    }
+
     private static void promise13Core() {
         SpinKernel x = new SpinKernel();
         x.task(6, 2, 1, 100, 100, 2);
@@ -684,9 +761,9 @@ public final class PromiseTest {
         for (int i : new int[] {-1, 4, LEAST, MOST}) {
             Check.due("place " + i, x.row(5, i), NONE);
         }
-        x.tick(2);
+        Check.due("none ends by spinning or holding on", x.tick(2), 0);
         rowIs("still held", x, 5, 2, 0, 1, 3);
-        x.tick(1);
+        Check.due("none ends by leaving with work ahead", x.tick(1), 0);
         rowIs("left in the section's last tick", x, 5, 0, 1, 3);
         cores("the next one still spun", x, 0, 0, SpinKernel.SPINS);
         x.tick(1);
@@ -794,6 +871,26 @@ public final class PromiseTest {
         }
         x.unseal();
         Check.due("gone", x.spun(1, 0), 0);
+        promise16SpunBySeveralRequests();
+    }
+
+    private static void promise16SpunBySeveralRequests() {
+        SpinKernel x = new SpinKernel();
+        x.task(0, 0, 1, 100, 100, 10);
+        x.request(0, 0, 0, 6, NONE);
+        x.request(0, 3, 1, 6, NONE);
+        x.task(1, 1, 1, 100, 100, 2);
+        x.request(1, 1, 0, 2, NONE);
+        x.request(1, 2, 1, 2, NONE);
+        seal(x);
+        arrive(x, 0, 1);
+        // Core 0 holds lock 0 in ticks 1 .. 6 and lock 1 in 10 .. 15; core 1 asks in ticks 2 and 10.
+        x.tick(10);
+        Check.due("the first of two", x.spun(1, 0), 5);
+        Check.due("the second of two starts from nothing", x.spun(1, 1), 1);
+        x.tick(40);
+        Check.due("the second of two", x.spun(1, 1), 6);
+        Check.due("the first of two stays", x.spun(1, 0), 5);
     }
 
     /** Under the test no job is late: jobs that end just at their deadline are the edge. */
