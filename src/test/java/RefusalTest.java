@@ -3,8 +3,8 @@ import java.util.List;
 
 /**
  * A refused call throws what is named first and changes nothing that later calls show: at several
- * points of one life, every refused call is made on one of two twins, which then live on alike and
- * must answer alike to the end. Each twin gets fewer than 512 calls.
+ * points of one life, refused calls of all kinds are made, each on one of two twins, which then live
+ * on alike and must answer alike to the end. Each twin gets fewer than 512 calls.
  */
 public final class RefusalTest {
     private static final int NONE = SpinKernel.NONE;
@@ -93,7 +93,7 @@ public final class RefusalTest {
     }
 
     private static void layDownTheLife() {
-        point("new", List.copyOf(refusedWhenNew()));
+        point("new", refusedWhenNew());
         layDownTasks();
         point("laid down", refusedWhenLaidDown());
         must("task 4 may be late", 4, x -> x.seal());
